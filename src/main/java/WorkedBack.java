@@ -1193,11 +1193,16 @@ public final class WorkedBack {
             return key >= 0 && key < keys && month >= 0 && month < MONTHS;
         }
 
-        /** Whether it goes on by one KEY till a MONTH and by another one from it on. */
-        boolean joins(int key, int later, int month) {
-            int till = aheadOf(key, month);
-            int from = onwardFrom(later, month);
-            return till >= 0 && from >= 0 && lowOf(till) <= highOf(from) && lowOf(from) <= highOf(till);
+        /** By which PAIRS it goes on from a MONTH with one of these STOCKS; their KEYS are steps apart. */
+        int onwardPairs(int stocks, int month, int firstKey, int step, int among) {
+            int bits = 0;
+            for (int pair = 0; pair < PAIRS && stocks >= 0; pair++) {
+                int from = (among >> pair & 1) != 0 ? onwardFrom(firstKey + step * pair, month) : -1;
+                if (from >= 0 && lowOf(stocks) <= highOf(from) && lowOf(from) <= highOf(stocks)) {
+                    bits |= 1 << pair;
+                }
+            }
+            return bits;
         }
     }
 
@@ -1213,16 +1218,14 @@ public final class WorkedBack {
         /** For the one THING that may stand in: it alone has so many KEYS. */
         private final Course wide;
         private final Mixtures fitting = new Mixtures();
+        private final Mixtures tried = new Mixtures();
         /** PARTS of p and of q that are in some MIXTURE that FITS. */
         private final long[] madeLow = new long[WARES];
         private final long[] madeHigh = new long[WARES];
         private int holder = -1;
         private int turn;
         private int chartTurn;
-        /** What the courses' meshes let through. */
         private int meshTurn;
-        private int meshMore;
-        private int meshDoubted;
 
         Works(Book book) {
             this.book = book;
@@ -1243,23 +1246,37 @@ public final class WorkedBack {
             for (int thing = 0; thing < THINGS; thing++) {
                 course(thing).set(book, thing, book.guestOf(thing));
             }
-            strain(0, 0);
+            strain();
             sift(fitting, 0);
             setMade();
         }
 
-        /** The courses' meshes for GIVES that are more and for doubted MONTHS. */
-        void strain(int more, int doubted) {
-            if (meshTurn == turn && meshMore == more && meshDoubted == doubted) {
+        /** The courses' meshes let through what AGREES. */
+        void strain() {
+            if (meshTurn == turn) {
                 return;
             }
             meshTurn = turn;
-            meshMore = more;
-            meshDoubted = doubted;
             for (int thing = 0; thing < THINGS; thing++) {
-                flow.set(book, thing, more, doubted);
+                flow.set(book, thing, 0, 0);
                 course(thing).strain(flow);
             }
+        }
+
+        /**
+         * The first MIXTURE that FITS with GIVES that are more and with doubted MONTHS; -1: none does.
+         * The THING that stands in comes last: its course is dear, and often the others leave none.
+         */
+        int firstBy(int more, int doubted) {
+            meshTurn = 0;
+            tried.copy(book.kept);
+            for (int i = 1; i <= THINGS && tried.next(0) >= 0; i++) {
+                int thing = (holder + i) % THINGS;
+                flow.set(book, thing, more, doubted);
+                course(thing).strain(flow);
+                course(thing).mesh.narrow(tried);
+            }
+            return tried.next(0);
         }
 
         /** Those that keep the RULE and pass the meshes of all THINGS but some (bits). */
@@ -1413,7 +1430,6 @@ public final class WorkedBack {
     /** NEAR and DOUBT. */
     private static final class Search {
         private final Works works;
-        private final Mixtures tried = new Mixtures();
         private int nearTurn;
         private int nearBy;
         private int nearFirst = -1;
@@ -1425,13 +1441,6 @@ public final class WorkedBack {
             this.works = works;
         }
 
-        /** The first MIXTURE that FITS so; -1: none does. */
-        private int firstBy(int more, int doubted) {
-            works.strain(more, doubted);
-            works.sift(tried, 0);
-            return tried.next(0);
-        }
-
         void seekNear() {
             if (nearTurn == works.turn) {
                 return;
@@ -1439,9 +1448,9 @@ public final class WorkedBack {
             nearTurn = works.turn;
             nearBy = 0;
             nearFirst = works.first();
-            if (nearFirst < 0 && firstBy(GIVE_MOST, 0) >= 0) {
+            if (nearFirst < 0 && works.firstBy(GIVE_MOST, 0) >= 0) {
                 nearBy = leastMore();
-                nearFirst = firstBy(nearBy, 0);
+                nearFirst = works.firstBy(nearBy, 0);
             }
         }
 
@@ -1451,7 +1460,7 @@ public final class WorkedBack {
             int some = GIVE_MOST;
             for (int i = 0; i < GIVE_MOST && some - none > 1; i++) {
                 int middle = (none + some) / 2;
-                if (firstBy(middle, 0) >= 0) {
+                if (works.firstBy(middle, 0) >= 0) {
                     some = middle;
                 } else {
                     none = middle;
@@ -1476,7 +1485,7 @@ public final class WorkedBack {
             for (int bits = 1; bits < 1 << works.book.months && bits < 1 << MONTHS; bits++) {
                 if (Integer.bitCount(bits) == many) {
                     doubtBits = bits;
-                    doubtFirst = firstBy(0, bits);
+                    doubtFirst = works.firstBy(0, bits);
                     if (doubtFirst >= 0) {
                         return;
                     }
@@ -1510,11 +1519,11 @@ public final class WorkedBack {
                 return;
             }
             turn = works.turn;
-            works.strain(0, 0);
+            works.strain();
             month = -1;
             for (int at = 1; at < works.book.months && month < 0; at++) {
                 for (int one = 0; one < THINGS && month < 0; one++) {
-                    if (hasLaters(at, one) && isFound(one)) {
+                    if (hasStarts(one) && hasLaters(at, one) && isFound(one)) {
                         month = at;
                         thing = one;
                     }
@@ -1531,14 +1540,15 @@ public final class WorkedBack {
             return one == works.holder ? stoodFor : one == stoodFor ? works.holder : -1;
         }
 
+        /** Sets what can come later for all PAIRS; whether there is some. */
         private boolean hasLaters(int at, int one) {
-            partner = partnerOf(one);
             mesh.close(one, partner);
             boolean some = false;
             int partnerPairs = partner < 0 ? 1 : PAIRS;
-            for (int other = 0; other < partnerPairs; other++) {
-                for (int pair = 0; pair < PAIRS; pair++) {
-                    int bits = latersOf(at, one, pair, other);
+            for (int pair = 0; pair < PAIRS; pair++) {
+                int among = latersOf(at, one, pair);
+                for (int other = 0; other < partnerPairs; other++) {
+                    int bits = among == 0 ? 0 : latersWith(at, one, pair, other, among);
                     laters[other * PAIRS + pair] = bits;
                     if (bits != 0) {
                         mesh.pass(pair, other);
@@ -1549,32 +1559,37 @@ public final class WorkedBack {
             return some;
         }
 
-        private int latersOf(int at, int one, int pair, int other) {
-            int bits = 0;
-            for (int later = 0; later < PAIRS; later++) {
-                if (later != pair && joinsBoth(at, one, pair, later, other)) {
-                    bits |= 1 << later;
-                }
-            }
-            return bits;
+        /** The PAIRS that can come later as far as they hang on this THING's PAIR alone. */
+        private int latersOf(int at, int one, int pair) {
+            int unlike = (1 << PAIRS) - 1 & ~(1 << pair);
+            Course course = works.course(one);
+            return one == works.holder ? unlike : course.onwardPairs(course.aheadOf(pair, at), at, 0, 1, unlike);
         }
 
-        private boolean joinsBoth(int at, int one, int pair, int later, int other) {
+        /** Of those the ones that the THING's own STOCK or its partner's can bear with a partner's PAIR. */
+        private int latersWith(int at, int one, int pair, int other, int among) {
+            if (partner < 0) {
+                return among;
+            }
+            Course wide = works.course(works.holder);
             if (one == works.holder) {
-                return works.course(one).joins(pair + PAIRS * other, later + PAIRS * other, at);
+                return wide.onwardPairs(wide.aheadOf(pair + PAIRS * other, at), at, PAIRS * other, 1, among);
             }
-            if (!works.course(one).joins(pair, later, at)) {
-                return false;
-            }
-            return partner < 0 || works.course(partner).joins(other + PAIRS * pair, other + PAIRS * later, at);
+            return wide.onwardPairs(wide.aheadOf(other + PAIRS * pair, at), at, other, PAIRS, among);
         }
 
-        private boolean isFound(int one) {
+        /** Sets those that keep the RULE and AGREE with all THINGS that such a change does not touch. */
+        private boolean hasStarts(int one) {
+            partner = partnerOf(one);
             int touched = 1 << one;
             if (partner >= 0 && partner == works.holder) {
                 touched |= 1 << partner;
             }
             works.sift(starts, touched);
+            return starts.next(0) >= 0;
+        }
+
+        private boolean isFound(int one) {
             mesh.narrow(starts);
             int first = starts.next(0);
             for (int i = 0; i < MIXTURES && first >= 0; i++) {
@@ -1666,7 +1681,7 @@ public final class WorkedBack {
                 return;
             }
             turn = works.turn;
-            works.strain(0, 0);
+            works.strain();
             for (int thing = 0; thing < THINGS; thing++) {
                 setWeights(thing);
                 for (int month = 0; month < works.book.months && month < MONTHS; month++) {
@@ -1676,6 +1691,9 @@ public final class WorkedBack {
         }
 
         private void weigh(Course course, int month, int place) {
+            if (place < 0 || place >= PLACES) {
+                return;
+            }
             int in = works.book.cell(month, course.thing);
             int give = works.book.cell(month, GIVE);
             int less = Math.min(in, give);
@@ -1690,26 +1708,14 @@ public final class WorkedBack {
             }
         }
 
-        /**
-         * How many FIT with so many more IN (from one number to another one), by that give or take.
-         * What a KEY takes is a span, so each KEY marks where it begins and where it ends.
-         */
+        /** How many FIT with so many more IN (from one number to another one), by that give or take. */
         private void count(Course course, int month, int from, int till, int slack) {
             for (int i = 0; i < counts.length; i++) {
                 counts[i] = 0;
             }
-            int in = works.book.cell(month, course.thing);
-            int lost = works.book.stockCell(course.thing, LOST);
             for (int key = 0; key < course.keys && key < weights.length; key++) {
-                int ahead = course.aheadOf(key, month);
-                int onward = course.onwardFrom(key, month + 1);
-                if (weights[key] > 0 && ahead >= 0 && onward >= 0) {
-                    int need = course.needAt(key, month);
-                    int least = lowOf(onward) - highOf(ahead) + need;
-                    int most = highOf(onward) - lowOf(ahead) + need + lost;
-                    int begin = Math.max(from, least - slack - in);
-                    int end = most < 0 ? from - 1 : Math.min(till, most + slack - in);
-                    mark(begin - from, end - from, weights[key]);
+                if (weights[key] > 0) {
+                    countKey(course, key, month, from, till, slack);
                 }
             }
             for (int i = 1; i < counts.length; i++) {
@@ -1717,10 +1723,22 @@ public final class WorkedBack {
             }
         }
 
-        private void mark(int begin, int end, int weight) {
+        /** What a KEY can do with is a span of INs, so it marks where that begins and where it has ended. */
+        private void countKey(Course course, int key, int month, int from, int till, int slack) {
+            int ahead = course.aheadOf(key, month);
+            int onward = course.onwardFrom(key, month + 1);
+            int need = course.needAt(key, month);
+            int least = lowOf(onward) - highOf(ahead) + need;
+            int most = highOf(onward) - lowOf(ahead) + need + works.book.stockCell(course.thing, LOST);
+            if (ahead < 0 || onward < 0 || most < 0) {
+                return;
+            }
+            int in = works.book.cell(month, course.thing);
+            int begin = Math.max(from, least - slack - in) - from;
+            int end = Math.min(till, most + slack - in) - from;
             if (begin >= 0 && begin <= end && end + 1 < counts.length) {
-                counts[begin] += weight;
-                counts[end + 1] -= weight;
+                counts[begin] += weights[key];
+                counts[end + 1] -= weights[key];
             }
         }
 
@@ -1743,9 +1761,9 @@ public final class WorkedBack {
             for (int amount = 0; amount < 5; amount++) {
                 long low = others.low(part) & parts.lowWith(thing, amount);
                 long high = others.high(part) & parts.highWith(thing, amount);
-                if (guest < 0) {
+                if (guest < 0 && pair + amount < weights.length) {
                     weights[pair + amount] += Long.bitCount(low) + Long.bitCount(high);
-                } else if ((low | high) != 0) {
+                } else if (guest >= 0 && (low | high) != 0) {
                     addGuestWeights(pair + amount, 5 * amountIn(part, guest), guest, low, high);
                 }
             }

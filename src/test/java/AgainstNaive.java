@@ -22,6 +22,8 @@ public final class AgainstNaive {
     private final Map<String, Integer> kinds;
     private int[] truth;
     private int roomy;
+    /** The month in which one thing of the hidden mixture is changed; -1: it is not. */
+    private int breakAt;
 
     private AgainstNaive(long seed, Map<String, Integer> kinds) {
         random = new Random(seed);
@@ -58,12 +60,13 @@ public final class AgainstNaive {
 
     private void setUp() {
         roomy = random.nextInt(3);
+        breakAt = random.nextInt(3) == 0 ? 1 + to(4) : -1;
         truth = new int[6];
         for (int i = 0; i < 6; i++) truth[i] = random.nextInt(3) == 0 ? 0 : to(4);
         for (int t = 0; t < 3; t++) {
-            if (roomy == 0) call("stock", t, 2, to(6));
+            if (roomy == 0) call("stock", t, 2, breakAt >= 0 ? to(1) : to(6));
             if (roomy == 1) call("stock", t, 2, to(40));
-            if (random.nextInt(3) == 0) call("stock", t, 3, to(5));
+            if (random.nextInt(3) == 0) call("stock", t, 3, breakAt >= 0 ? to(1) : to(5));
             if (random.nextInt(3) == 0) {
                 int most = to(roomy == 2 ? 99 : 12);
                 call("stock", t, 1, most);
@@ -72,7 +75,16 @@ public final class AgainstNaive {
         }
         if (random.nextInt(2) == 0) standOne();
         int months = random.nextInt(5) == 0 ? 8 : 1 + to(5);
-        for (int m = 0; m < months; m++) addMonth();
+        for (int m = 0; m < months; m++) {
+            if (m == breakAt) changeTruth();
+            addMonth();
+        }
+    }
+
+    private void changeTruth() {
+        int t = to(2);
+        truth[t] = to(4);
+        truth[3 + t] = to(4);
     }
 
     private void standOne() {
@@ -84,17 +96,26 @@ public final class AgainstNaive {
     private void addMonth() {
         int most = random.nextInt(4) == 0 ? 20 : random.nextInt(3) == 0 ? 8 : 4;
         int p = to(most), q = random.nextInt(3) == 0 ? 0 : to(most);
-        int give = random.nextInt(2) == 0 ? 0 : to(5);
+        int give = random.nextInt(2) == 0 ? 0 : to(breakAt >= 0 ? 1 : 5);
+        boolean exact = breakAt >= 0 && random.nextInt(8) > 0;
+        int[] prices = new int[3];
+        for (int t = 0; t < 3; t++) prices[t] = random.nextInt(3) > 0 ? to(random.nextInt(3) == 0 ? 99 : 9) : 0;
         int[] in = new int[3];
-        if (random.nextInt(12) == 0) truth[to(5)] = to(4);
+        if (!exact && random.nextInt(12) == 0) truth[to(5)] = to(4);
+        int standing = call("told", 3);
         for (int t = 0; t < 3; t++) {
-            int off = random.nextInt(4) == 0 ? to(6) - 3 : give == 0 ? 0 : to(2 * give) - give;
-            in[t] = Math.max(0, Math.min(99, p * truth[t] + q * truth[3 + t] + off));
-            if (random.nextInt(40) == 0) in[t] = to(99);
+            int by = t;
+            if (standing >= 0 && t == standing % 10 && prices[standing / 10] < prices[t]) by = standing / 10;
+            in[by] += p * truth[t] + q * truth[3 + t];
+        }
+        for (int t = 0; t < 3; t++) {
+            int off = !exact && random.nextInt(4) == 0 ? to(6) - 3 : give == 0 ? 0 : to(2 * give) - give;
+            in[t] = Math.max(0, Math.min(99, in[t] + off));
+            if (!exact && random.nextInt(40) == 0) in[t] = to(99);
         }
         int m = call("month", in[0], in[1], in[2], give, p, q);
         for (int t = 0; t < 3 && m >= 0; t++) {
-            if (random.nextInt(3) > 0) call("change", m, 6 + t, to(random.nextInt(3) == 0 ? 99 : 9));
+            if (prices[t] > 0) call("change", m, 6 + t, prices[t]);
         }
     }
 
