@@ -274,7 +274,15 @@ public final class PromiseTest {
         due("the most", kept("pa+pa+pa+pa+pa+pa+pa+pa+pa+pa+pa+pa+pa+pa+pa+pa=64"), 3125);
         due("the most in q", kept("qb+qb+qb+qb+qb+qb+qb+qb+qb+qb+qb+qb+qb+qb+qb+qb>63"), 3125);
         due("ten BOTHS", kept("pa=0|pa=1|pa=2|pa=3|pa=4|pb=0|pb=1|pb=2|pb=3|pb=4"), 15625);
+        String long16 = "qa+qb+qb+qb+qb+qb+qb+qb+qb+qb+qb+qb+qb+qb+qb+qb";
+        due("63", kept(long16 + "=63"), 625);
+        due("above 62", kept(long16 + ">62"), 1250);
+        due("below 63", kept(long16 + "<63"), 15625 - 1250);
+        due("below 64", kept(long16 + "<64"), 15625 - 625);
         WorkedBack x = new WorkedBack();
+        rule(x, long16 + "<64");
+        rule(x, long16.replace("qa", "qb") + "<64");
+        due("nothing of the RULE before", x.all(-1), 12500);
         rule(x, "pa=1|pa=2");
         due("signs are empty then", x.told(1), 0);
         say(x, "pa=");
@@ -346,6 +354,10 @@ public final class PromiseTest {
     private static void p15() {
         WorkedBack x = new WorkedBack();
         due("no months", x.judge(15624, 0), NONE);
+        WorkedBack y = strict();
+        y.month(5, 0, 0, 0, 1, 0);
+        due("the first MONTH", y.judge(0, 0), 0);
+        due("the first THING", y.judge(0, 1), 0);
         x.stock(1, HOLDS, 5);
         x.month(10, 3, 0, 0, 1, 0);
         x.month(10, 3, 0, 0, 1, 0);
@@ -469,6 +481,9 @@ public final class PromiseTest {
         rule(x, "pa=1&pb=1&pc=1|pa=2&pb=0&pc=0&qa=4&qb=4|qa+pa=8");
         due("a later one with fewer", x.plain(0), mix(4, 0, 0, 4, 0, 0));
         due("two", x.plain(1), 2);
+        rule(x, "pa>0&pb>0&pc>0&qa>0&qb>0&qc>0");
+        due("all are in", x.plain(0), mix(1, 1, 1, 1, 1, 1));
+        due("six", x.plain(1), 6);
         due("what", x.plain(2), OUTSIDE);
         due("what", x.plain(-1), OUTSIDE);
         rule(x, "pa=9");
@@ -550,6 +565,14 @@ public final class PromiseTest {
         y.stock(0, LEAST, 50);
         y.month(0, 0, 0, 0, 0, 0);
         due("none less than 0", y.doubt(0), NO);
+        y.stock(0, LEAST, 0);
+        y.stock(0, MOST, 0);
+        y.month(1, 0, 0, 0, 0, 0);
+        y.month(0, 0, 0, 0, 0, 0);
+        due("MONTH 1", y.doubt(0), 2);
+        due("MIXTURE 0", y.doubt(1), 0);
+        for (int i = 3; i < 8; i++) y.month(i == 7 ? 1 : 0, 0, 0, 0, 0, 0);
+        due("the last of eight, too", y.doubt(0), 2 + 128);
         WorkedBack z = strict();
         z.month(0, 0, 0, 0, 20, 20);
         rule(z, "pa+qa=8");
@@ -591,6 +614,12 @@ public final class PromiseTest {
         y.month(5, 0, 0, 0, 1, 0);
         due("no MONTH 1", y.changed(0), NO);
         y.tear();
+        y.month(0, 0, 0, 0, 1, 0);
+        y.month(1, 0, 0, 0, 1, 0);
+        due("MIXTURE 0 till then", y.changed(2), 0);
+        due("from then", y.changed(3), mix(1, 0, 0, 0, 0, 0));
+        y.tear();
+        y.tear();
         y.month(4, 0, 0, 0, 2, 0);
         y.month(6, 0, 0, 0, 2, 1);
         y.month(2, 0, 0, 0, 1, 1);
@@ -611,6 +640,46 @@ public final class PromiseTest {
         rule(z, "pb=2");
         want = new int[] {1, 2, mix(0, 2, 1, 0, 0, 0), mix(0, 2, 2, 0, 0, 0)};
         for (int i = 0; i < 4; i++) due("now c " + i, z.changed(i), want[i]);
+        p23Standing();
+    }
+
+    /** a stands in for b: what is told of the two comes from one STOCK. */
+    private static WorkedBack standing() {
+        WorkedBack x = strict();
+        x.month(3, 0, 0, 0, 1, 0);
+        x.change(0, 6, 1);
+        x.change(0, 7, 2);
+        x.stand(0, 1);
+        return x;
+    }
+
+    private static void p23Standing() {
+        WorkedBack x = standing();
+        x.month(4, 0, 0, 0, 1, 0);
+        x.change(1, 6, 1);
+        x.change(1, 7, 2);
+        int[] want = {1, 0, mix(0, 3, 0, 0, 0, 0), mix(1, 3, 0, 0, 0, 0)};
+        for (int i = 0; i < 4; i++) due("a was changed " + i, x.changed(i), want[i]);
+        rule(x, "pa=2");
+        want = new int[] {1, 1, mix(2, 1, 0, 0, 0, 0), mix(2, 2, 0, 0, 0, 0)};
+        for (int i = 0; i < 4; i++) due("b was changed " + i, x.changed(i), want[i]);
+        x.free();
+        x.change(1, 6, 2);
+        want = new int[] {1, 0, mix(3, 0, 0, 0, 0, 0), mix(4, 0, 0, 0, 0, 0)};
+        for (int i = 0; i < 4; i++) due("it stands in in MONTH 0 alone " + i, x.changed(i), want[i]);
+        x.change(1, 2, 1);
+        due("c too", x.changed(0), NO);
+        x.change(1, 0, 2);
+        x.change(1, 1, 1);
+        want = new int[] {1, 2, mix(2, 1, 0, 0, 0, 0), mix(2, 1, 1, 0, 0, 0)};
+        for (int i = 0; i < 4; i++) due("c was changed " + i, x.changed(i), want[i]);
+        x.change(1, 2, 0);
+        x.change(1, 0, 1);
+        want = new int[] {1, 0, mix(2, 1, 0, 0, 0, 0), mix(1, 1, 0, 0, 0, 0)};
+        for (int i = 0; i < 4; i++) due("a again " + i, x.changed(i), want[i]);
+        rule(x, "pa=1");
+        want = new int[] {1, 1, mix(1, 2, 0, 0, 0, 0), mix(1, 1, 0, 0, 0, 0)};
+        for (int i = 0; i < 4; i++) due("b again " + i, x.changed(i), want[i]);
     }
 
     private static void p24() {
@@ -641,6 +710,12 @@ public final class PromiseTest {
         x.change(1, 6, 10);
         x.change(1, 7, 3);
         x.change(1, 8, 1);
+        due("nothing is in it", x.costs(0, 1, 0), 0);
+        due("all is in it", x.costs(1, 1, 1), 56);
+        rule(x, "pa=2&pb=2&pc=4&qa=2&qb=2&qc=3");
+        due("one p", x.costs(0, 1, 0), 30);
+        due("one p", x.costs(0, 1, 1), 30);
+        due("one q", x.costs(1, 1, 0), 29);
         rule(x, "pa+pb=3&pc=1&qc>2&qb=1&qa=0");
         due("cheap p", x.costs(0, 1, 0), 10);
         due("dear p", x.costs(0, 1, 1), 31);
@@ -720,6 +795,20 @@ public final class PromiseTest {
         y.change(0, 3, 1);
         due("0 to 3 of a, 0 or 1 of b and c", y.all(-1), 16 * 125);
         settle(y, "b: one of two, a: two of four", 0, 0, 8 * 125);
+        WorkedBack z = standing();
+        z.change(0, 3, 1);
+        due("2 to 4 of a and b, 0 or 1 of c", z.all(-1), (3 + 4 + 5) * 2 * 125);
+        settle(z, "a for both", 0, 0, 5 * 2 * 125);
+        rule(z, "pa=2");
+        due("0 to 2 of b", z.all(-1), 3 * 2 * 125);
+        settle(z, "a for both", 0, 0, 2 * 125);
+        WorkedBack l = strict();
+        l.stock(0, HOLDS, 1);
+        l.stock(0, LOST, 1);
+        l.month(3, 0, 0, 0, 1, 0);
+        l.month(1, 0, 0, 0, 0, 0);
+        due("1 to 3 of a", l.all(-1), 3 * 125);
+        settle(l, "nothing to settle", 0, 0, 3 * 125);
     }
 
     private static void hide(WorkedBack x, int purse, int month, int thing, int more, int many) {
@@ -761,6 +850,11 @@ public final class PromiseTest {
         due("a: 0 or 1, then 3 or 4", x.all(-1), 0);
         hide(x, 999, 0, 0, 3, 8 * 125);
         hide(x, 2, 0, 0, 2, 4 * 125);
+        WorkedBack z = standing();
+        z.change(0, 0, 0);
+        hide(z, 4, 0, 0, 4, 5 * 125);
+        hide(z, 3, 0, 0, 3, 4 * 125);
+        hide(z, 0, 0, 2, 1, 125);
         WorkedBack y = new WorkedBack();
         y.stock(0, HOLDS, 28);
         rule(y, "pa=4&qa=0");
@@ -867,11 +961,6 @@ public final class PromiseTest {
         due("STAND", x.told(3), 12);
     }
 
-    private static void run(int n, Runnable test) {
-        promise = n;
-        test.run();
-    }
-
     public static void main(String[] args) {
         Runnable[] tests = {PromiseTest::p1, PromiseTest::p2, PromiseTest::p3, PromiseTest::p4, PromiseTest::p5,
             PromiseTest::p6, PromiseTest::p7, PromiseTest::p8, PromiseTest::p9, PromiseTest::p10, PromiseTest::p11,
@@ -879,7 +968,10 @@ public final class PromiseTest {
             PromiseTest::p17, PromiseTest::p18, PromiseTest::p19, PromiseTest::p20, PromiseTest::p21,
             PromiseTest::p22, PromiseTest::p23, PromiseTest::p24, PromiseTest::p25, PromiseTest::p26,
             PromiseTest::p27, PromiseTest::p28, PromiseTest::p29, PromiseTest::p30, PromiseTest::p31};
-        for (int i = 0; i < tests.length; i++) run(i + 1, tests[i]);
+        for (int i = 0; i < tests.length; i++) {
+            promise = i + 1;
+            tests[i].run();
+        }
         System.out.println(wrong == 0 ? "all promises are as due" : wrong + " answers are not as due");
         if (wrong != 0) System.exit(1);
     }
