@@ -124,6 +124,17 @@ public final class EdgeDoTest {
             Edges.rule(x, "pa=1|qc=1");
             changed("with 1 of c in q", x, 1, 0, Edges.only(0, 1, 0) + 1, Edges.only(0, 2, 0) + 1);
         });
+        Edges.edge("23: the first that has a second, far behind one that has none", () -> {
+            WorkedBack x = byMonths(1, 2);
+            Edges.rule(x, "pa=1&qa+qb+qc=0|pa=1&qa=4&qc=1|pa=2&qa=4&qc=1");
+            changed("with 4 of a and 1 of c in q", x, 1, 0, Edges.mix(1, 0, 0, 4, 0, 1), Edges.mix(2, 0, 0, 4, 0, 1));
+        });
+        Edges.edge("23: to nothing of it in both WARES", () -> {
+            WorkedBack x = Edges.strict();
+            x.month(3, 0, 0, 0, 1, 0);
+            x.month(0, 0, 0, 0, 1, 1);
+            changed("3 to 0", x, 1, 0, Edges.only(0, 3, 0), 0);
+        });
         Edges.edge("23: in q alone, one more and one less", () -> {
             WorkedBack x = Edges.strict();
             x.month(2, 0, 0, 0, 0, 1);

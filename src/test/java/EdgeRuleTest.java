@@ -339,6 +339,15 @@ public final class EdgeRuleTest {
                 for (int how = 0; how < 3; how++) Edges.due(i + " " + how, x.fits(mixtures[i], how), want[i][how]);
             }
         });
+        Edges.edge("13: each of 125 ways to make q, and no other one", () -> {
+            for (int part = 0; part < 125; part++) {
+                WorkedBack x = new WorkedBack();
+                Edges.rule(x, "qa=" + part / 25 + "&qb=" + part / 5 % 5 + "&qc=" + part % 5);
+                for (int other = 0; other < 125; other++) {
+                    Edges.due(part + " " + other, x.fits(125 * other + other, 0), other == part ? 1 : 0);
+                }
+            }
+        });
         Edges.edge("13: the first and the last MIXTURE, and those beside them", () -> {
             WorkedBack x = new WorkedBack();
             for (int how = 0; how < 3; how++) {

@@ -187,6 +187,17 @@ public final class EdgeStandTest {
             Edges.due("the THING", x.settle(1), one);
             Edges.due("how many", x.settle(2), 35 * 3);
         });
+        Edges.edge(who + "SETTLE: with nothing in q", () -> {
+            WorkedBack x = Edges.strict();
+            x.month(0, 0, 0, 1, 1, 1);
+            x.change(0, one, 3);
+            x.change(0, Edges.PRICE + other, 1);
+            x.stand(one, other);
+            Edges.rule(x, "qa+qb+qc=0");
+            Edges.due("2 to 4 of two numbers, 0 or 1", x.all(-1), (3 + 4 + 5) * 2);
+            Edges.due("the THING", x.settle(1), one);
+            Edges.due("how many", x.settle(2), 5 * 2);
+        });
         Edges.edge(who + "SETTLE: the other one's IN tells nothing then", () -> {
             WorkedBack x = new WorkedBack();
             x.month(0, 0, 0, 0, 1, 0);
